@@ -277,7 +277,7 @@ public final class RiggingLoft {
         for (int step = 0; step < tape.size(); step++) {
             int answer = play(step);
             if (!verdict.isRefusal() && answer != tape.number(step, STEP_D)) {
-                verdict.refuse(OTHER, answer);
+                verdict.refuseOver(OTHER, answer);
             }
             if (verdict.isRefusal()) {
                 break;
@@ -623,10 +623,10 @@ public final class RiggingLoft {
         }
 
         int refuse(int why) {
-            return refuse(why, 0);
+            return refuseOver(why, 0);
         }
 
-        int refuse(int why, int about) {
+        int refuseOver(int why, int about) {
             finding = why;
             subject = about;
             return NONE;
@@ -1134,7 +1134,7 @@ public final class RiggingLoft {
             }
             for (int place = 0; place < MOST_PLACES; place++) {
                 if (!loft.isFree(bar, place)) {
-                    return verdict.refuse(BURDENED, place);
+                    return verdict.refuseOver(BURDENED, place);
                 }
             }
             int gone = loft.linesOf(bar);
@@ -1310,7 +1310,7 @@ public final class RiggingLoft {
             int old = loft.things.get(thing, THING_HEAT);
             loft.things.set(thing, THING_HEAT, eighths);
             int scorched = nearness.leastTooHot(loft.things.get(thing, THING_BAR));
-            return scorched == NONE ? old : verdict.refuse(HOT, scorched);
+            return scorched == NONE ? old : verdict.refuseOver(HOT, scorched);
         }
 
         int hangThing(int thing, int bar, int place) {
@@ -1395,18 +1395,18 @@ public final class RiggingLoft {
         private void judge(int first, int last, int from, int n) {
             int struck = nearness.leastClash(first, last, from, n);
             if (struck != NONE) {
-                verdict.refuse(CLASH, struck);
+                verdict.refuseOver(CLASH, struck);
                 return;
             }
             // On a second bar only a FLYER was hung, which is never hot nor ever too hot.
             int scorched = nearness.leastTooHot(first);
             if (scorched != NONE) {
-                verdict.refuse(HOT, scorched);
+                verdict.refuseOver(HOT, scorched);
                 return;
             }
             for (int bar = first; bar <= last; bar++) {
                 if (!weights.isHeld(bar)) {
-                    verdict.refuse(HEAVY, bar);
+                    verdict.refuseOver(HEAVY, bar);
                     return;
                 }
             }

@@ -262,6 +262,8 @@ public final class BarsTest {
         due.done(x, "wave(7)", x.wave(7), 42);
         due.done(x, "wave(7) again", x.wave(7), 42);
         due.is("waves are not kept", x.told(6), 1);
+        x.flag(0, 99);
+        due.done(x, "wave(0)", x.wave(0), 99);
         x.flag(7, 0);
         due.no(x, "wave(7) without a sign", x.wave(7), Due.SILENT);
     }

@@ -13,6 +13,7 @@ public final class CuesTest {
         groupMovesTogether();
         stopsAtEnds();
         stopsByBalance();
+        otherBarsDoNotMatter();
         stopsByHold();
         stopsByClash();
         orderOfReasons();
@@ -186,6 +187,25 @@ public final class CuesTest {
         due.is("a load of 1000 with 1 brick", x.go(1), 1);
     }
 
+    private static void otherBarsDoNotMatter() {
+        RiggingLoft x = strong(4, 6, 30);
+        x.thing(Due.SET, 1, 5, 8);
+        x.brick(1, 5);
+        x.brick(3, 5);
+        x.cue(2, 1, 0, 9);
+        due.is("bars 1 and 3 are not in balance", x.go(1), 1);
+        x.brick(1, -5);
+        x.brick(3, -5);
+        x.thing(Due.SET, 1, 5, 8);
+        x.hang(0, 1, 2);
+        x.hang(1, 3, 2);
+        x.cut(2);
+        x.cut(6);
+        due.is("bar 1 is not held", x.barOf(1, 7), 0);
+        due.is("bar 3 is not held", x.barOf(3, 7), 0);
+        due.is("bar 2 goes on", x.go(1), 1);
+    }
+
     private static void stopsByHold() {
         RiggingLoft x = strong(1, 6, 30);
         x.thing(Due.CLOTH, 1, 5, 7999);
@@ -230,6 +250,12 @@ public final class CuesTest {
         x.cue(0, 1, 5, 1);
         x.cue(1, 1, 5, 1);
         due.is("one behind the other", x.go(1), 2);
+        x.cue(0, 1, 6, 1);
+        x.go(1);
+        x.cue(0, -5, 7, 1);
+        due.is("down until the ends meet", x.go(1), 1);
+        stop(x, 0, 7, 4, 0, 1, 3);
+        due.is("bar 0", x.barOf(0, 2), 13);
     }
 
     private static void orderOfReasons() {

@@ -178,6 +178,12 @@ public final class ThingsTest {
         x.hang(0, 0, 3);
         due.done(x, "CLOTHS whose depths are just the gap", x.hang(1, 1, 3), 1);
         x.strike(1);
+        x.thing(Due.LAMP, 5, 40, 8);
+        x.thing(Due.BORDER, 5, 6, 8);
+        due.done(x, "a LAMP, just the gap", x.hang(6, 1, 3), 1);
+        x.strike(6);
+        due.done(x, "a BORDER, just the gap", x.hang(7, 1, 3), 1);
+        x.strike(7);
         due.no(x, "depths above the gap", x.hang(2, 1, 3), Due.CLASH, 0);
         due.done(x, "in another place", x.hang(2, 1, 4), 1);
         x.strike(2);
@@ -375,6 +381,9 @@ public final class ThingsTest {
         due.is("at(0, 3)", x.at(0, 3), 3);
         due.is("at(0, 1)", x.at(0, 1), 0);
         due.no(x, "onto what is not carried", x.shift(0, 2, 3, 1), Due.TAKEN);
+        due.done(x, "the place behind those carried has a hook", x.shift(0, 3, 2, 1), 1);
+        due.done(x, "and it does not matter", x.shift(0, 2, 1, 2), 1);
+        due.is("the hook is there still", x.at(0, 4), 1);
     }
 
     private static void shiftCarries() {
@@ -403,6 +412,8 @@ public final class ThingsTest {
         due.is("at(0, 5)", x.at(0, 5), 3);
         due.is("at(0, 7)", x.at(0, 7), 4);
         due.is("of(0, 4)", x.of(0, 4), 0);
+        due.done(x, "the thing behind those carried stays", x.shift(0, 3, 1, 2), 0);
+        due.is("at(0, 5)", x.at(0, 5), 3);
         due.is("of(1, 4)", x.of(1, 4), 5);
         due.is("of(1, 3)", x.of(1, 3), 0);
         due.done(x, "a thing struck where it was carried to", x.strike(1), 5);
