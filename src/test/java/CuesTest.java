@@ -26,17 +26,6 @@ public final class CuesTest {
         due.end();
     }
 
-    /** Bars from 0 on with two strong lines each, at their outermost places. */
-    private static RiggingLoft strong(int bars, int places, int gap) {
-        RiggingLoft x = new RiggingLoft();
-        for (int bar = 0; bar < bars; bar++) {
-            x.bar(bar, places, gap);
-            x.line(bar, 0, 1, 30000);
-            x.line(bar, places - 1, 1, 30000);
-        }
-        return x;
-    }
-
     private static void stop(RiggingLoft x, int k, int time, int reason, int bar, int neighbour, int place) {
         int[] want = {time, reason, bar, neighbour, place};
         for (int what = 0; what < 5; what++) {
@@ -132,7 +121,7 @@ public final class CuesTest {
     }
 
     private static void groupMovesTogether() {
-        RiggingLoft x = strong(4, 6, 30);
+        RiggingLoft x = Due.strong(4, 6, 30);
         x.thing(Due.FLYER, 1, 5, 16);
         x.thing(Due.FLYER, 1, 5, 16);
         x.hang(0, 1, 2);
@@ -172,7 +161,7 @@ public final class CuesTest {
     }
 
     private static void stopsByBalance() {
-        RiggingLoft x = strong(2, 6, 30);
+        RiggingLoft x = Due.strong(2, 6, 30);
         x.thing(Due.CLOTH, 1, 5, 8000);
         x.hang(0, 1, 2);
         x.cue(1, 1, 0, 1);
@@ -188,7 +177,7 @@ public final class CuesTest {
     }
 
     private static void otherBarsDoNotMatter() {
-        RiggingLoft x = strong(4, 6, 30);
+        RiggingLoft x = Due.strong(4, 6, 30);
         x.thing(Due.SET, 1, 5, 8);
         x.brick(1, 5);
         x.brick(3, 5);
@@ -207,7 +196,7 @@ public final class CuesTest {
     }
 
     private static void stopsByHold() {
-        RiggingLoft x = strong(1, 6, 30);
+        RiggingLoft x = Due.strong(1, 6, 30);
         x.thing(Due.CLOTH, 1, 5, 7999);
         x.hang(0, 0, 2);
         x.cue(0, 1, 0, 3);
@@ -228,7 +217,7 @@ public final class CuesTest {
     }
 
     private static void stopsByClash() {
-        RiggingLoft x = strong(3, 6, 5);
+        RiggingLoft x = Due.strong(3, 6, 5);
         x.thing(Due.SET, 3, 10, 8);
         x.thing(Due.SET, 3, 10, 8);
         x.hang(0, 0, 3);
@@ -259,7 +248,7 @@ public final class CuesTest {
     }
 
     private static void orderOfReasons() {
-        RiggingLoft x = strong(2, 6, 30);
+        RiggingLoft x = Due.strong(2, 6, 30);
         x.thing(Due.FLYER, 1, 5, 32000);
         x.hang(0, 0, 2);
         x.cut(0);
@@ -300,7 +289,7 @@ public final class CuesTest {
 
     /** By bars, then by places, then below in number and above. */
     private static void clashOrder() {
-        RiggingLoft x = strong(4, 6, 5);
+        RiggingLoft x = Due.strong(4, 6, 5);
         x.thing(Due.FLYER, 2, 1, 16);
         for (int i = 0; i < 6; i++) {
             x.thing(Due.SET, 3, 1, 8);
@@ -325,7 +314,7 @@ public final class CuesTest {
         x.cue(1, -1, 3, 1);
         x.go(1);
         stop(x, 0, 3, 4, 2, 3, 1);
-        RiggingLoft y = strong(3, 6, 5);
+        RiggingLoft y = Due.strong(3, 6, 5);
         y.thing(Due.SET, 3, 1, 8);
         y.thing(Due.SET, 3, 1, 8);
         y.thing(Due.SET, 3, 1, 8);
@@ -360,7 +349,7 @@ public final class CuesTest {
 
     private static void least() {
         due.promise(31);
-        RiggingLoft x = strong(5, 6, 30);
+        RiggingLoft x = Due.strong(5, 6, 30);
         x.thing(Due.FLYER, 1, 5, 32000);
         x.thing(Due.CLOTH, 1, 5, 20000);
         x.hang(0, 1, 2);

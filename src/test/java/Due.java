@@ -31,6 +31,17 @@ final class Due {
     private int wrong = 0;
     private String promise = "";
 
+    /** Bars from 0 on with two strong lines each, at their outermost places. */
+    static RiggingLoft strong(int bars, int places, int gap) {
+        RiggingLoft x = new RiggingLoft();
+        for (int bar = 0; bar < bars; bar++) {
+            x.bar(bar, places, gap);
+            x.line(bar, 0, 1, 30000);
+            x.line(bar, places - 1, 1, 30000);
+        }
+        return x;
+    }
+
     void promise(int number) {
         promise = "promise " + number;
     }

@@ -24,17 +24,6 @@ public final class ThingsTest {
         due.end();
     }
 
-    /** Bars from 0 on with two strong lines each, at their outermost places. */
-    private static RiggingLoft strong(int bars, int places, int gap) {
-        RiggingLoft x = new RiggingLoft();
-        for (int bar = 0; bar < bars; bar++) {
-            x.bar(bar, places, gap);
-            x.line(bar, 0, 1, 30000);
-            x.line(bar, places - 1, 1, 30000);
-        }
-        return x;
-    }
-
     /** Brings a bar without things up by so many units. */
     private static void lift(RiggingLoft x, int bar, int units) {
         x.cue(bar, 1, x.told(9), units);
@@ -78,7 +67,7 @@ public final class ThingsTest {
 
     private static void heat() {
         due.promise(8);
-        RiggingLoft x = strong(1, 10, 10);
+        RiggingLoft x = Due.strong(1, 10, 10);
         due.no(x, "no thing was told", x.heat(0, 1), Due.BEYOND);
         x.thing(Due.CLOTH, 1, 5, 8);
         x.thing(Due.LAMP, 1, 5, 8);
@@ -109,7 +98,7 @@ public final class ThingsTest {
 
     private static void hangFindings() {
         due.promise(9);
-        RiggingLoft x = strong(1, 6, 10);
+        RiggingLoft x = Due.strong(1, 6, 10);
         due.no(x, "no thing was told", x.hang(0, 0, 0), Due.BEYOND);
         x.thing(Due.CLOTH, 1, 5, 8);
         x.thing(Due.SET, 1, 5, 8);
@@ -168,7 +157,7 @@ public final class ThingsTest {
     }
 
     private static void hangClash() {
-        RiggingLoft x = strong(3, 6, 10);
+        RiggingLoft x = Due.strong(3, 6, 10);
         x.thing(Due.CLOTH, 5, 40, 8);
         x.thing(Due.CLOTH, 5, 40, 8);
         x.thing(Due.CLOTH, 6, 40, 8);
@@ -220,7 +209,7 @@ public final class ThingsTest {
     }
 
     private static void hangClashOfHigh() {
-        RiggingLoft x = strong(2, 6, 2);
+        RiggingLoft x = Due.strong(2, 6, 2);
         x.thing(Due.SET, 2, 10, 8);
         x.thing(Due.SET, 2, 40, 8);
         x.hang(0, 0, 2);
@@ -231,7 +220,7 @@ public final class ThingsTest {
     }
 
     private static void hangHot() {
-        RiggingLoft x = strong(2, 12, 30);
+        RiggingLoft x = Due.strong(2, 12, 30);
         x.thing(Due.LAMP, 1, 5, 8);
         x.thing(Due.CLOTH, 1, 5, 8);
         x.thing(Due.BORDER, 1, 5, 8);
@@ -304,7 +293,7 @@ public final class ThingsTest {
 
     private static void strike() {
         due.promise(10);
-        RiggingLoft x = strong(2, 6, 30);
+        RiggingLoft x = Due.strong(2, 6, 30);
         due.no(x, "no thing was told", x.strike(0), Due.BEYOND);
         x.thing(Due.FLYER, 1, 5, 16);
         x.thing(Due.CLOTH, 1, 5, 8);
@@ -340,7 +329,7 @@ public final class ThingsTest {
 
     private static void shiftFindings() {
         due.promise(13);
-        RiggingLoft x = strong(1, 6, 10);
+        RiggingLoft x = Due.strong(1, 6, 10);
         due.no(x, "shift(-1, ..)", x.shift(-1, 0, 0, 0), Due.BEYOND);
         due.no(x, "shift(12, ..)", x.shift(12, 0, 0, 0), Due.BEYOND);
         due.no(x, "not rigged", x.shift(1, -1, 0, 0), Due.MISSING);
@@ -363,7 +352,7 @@ public final class ThingsTest {
     }
 
     private static void shiftTaken() {
-        RiggingLoft x = strong(2, 8, 30);
+        RiggingLoft x = Due.strong(2, 8, 30);
         x.thing(Due.FLYER, 1, 5, 16);
         x.thing(Due.CLOTH, 1, 5, 8);
         x.thing(Due.CLOTH, 1, 5, 8);
@@ -387,7 +376,7 @@ public final class ThingsTest {
     }
 
     private static void shiftCarries() {
-        RiggingLoft x = strong(1, 8, 30);
+        RiggingLoft x = Due.strong(1, 8, 30);
         for (int i = 0; i < 3; i++) {
             x.thing(Due.CLOTH, 1, 5, 8);
         }
@@ -420,7 +409,7 @@ public final class ThingsTest {
     }
 
     private static void shiftClash() {
-        RiggingLoft x = strong(3, 8, 6);
+        RiggingLoft x = Due.strong(3, 8, 6);
         for (int i = 0; i < 5; i++) {
             x.thing(Due.SET, 3, 5, 8);
         }
@@ -436,7 +425,7 @@ public final class ThingsTest {
     }
 
     private static void shiftHot() {
-        RiggingLoft x = strong(1, 12, 6);
+        RiggingLoft x = Due.strong(1, 12, 6);
         x.thing(Due.LAMP, 3, 5, 8);
         x.thing(Due.BORDER, 3, 5, 8);
         x.thing(Due.CLOTH, 3, 5, 8);
