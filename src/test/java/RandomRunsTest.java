@@ -366,8 +366,8 @@ public final class RandomRunsTest {
     }
 
     private void act(String name, int a, int b, int c, int d, int e) {
-        int want = naive(name, a, b, c, d, e);
-        int got = real(name, a, b, c, d, e);
+        int want = (int) Callers.onNaive(due, name, a, b, c, d, e);
+        int got = (int) Callers.onClass(it, name, a, b, c, d, e);
         int finding = due.status(0);
         story.append(name).append('(').append(a).append(", ").append(b).append(", ").append(c).append(", ").append(d)
                 .append(", ").append(e).append(") = ").append(want).append(" finding ").append(finding).append('\n');
@@ -384,46 +384,6 @@ public final class RandomRunsTest {
         }
         if (due.told(6) == 60) {
             seen.merge("kept 60", 1, Integer::sum);
-        }
-    }
-
-    private int naive(String name, int a, int b, int c, int d, int e) {
-        switch (name) {
-            case "wave": return due.wave(a);
-            case "undo": return due.undo();
-            case "tell": return due.tell(a, b, c, d, e);
-            case "forge": return due.forge(a, b, c);
-            case "clear": return due.clear();
-            case "check": return due.check();
-            default: return due.act(name, a, b, c, d);
-        }
-    }
-
-    private int real(String name, int a, int b, int c, int d, int e) {
-        switch (name) {
-            case "bar": return it.bar(a, b, c);
-            case "strip": return it.strip(a);
-            case "line": return it.line(a, b, c, d);
-            case "wear": return it.wear(a, b, c);
-            case "cut": return it.cut(a);
-            case "thing": return it.thing(a, b, c, d);
-            case "heat": return it.heat(a, b);
-            case "hang": return it.hang(a, b, c);
-            case "strike": return it.strike(a);
-            case "hook": return it.hook(a, b, c != 0);
-            case "brick": return it.brick(a, b);
-            case "shift": return it.shift(a, b, c, d);
-            case "flag": return it.flag(a, b);
-            case "wave": return it.wave(a);
-            case "cue": return it.cue(a, b, c, d);
-            case "hush": return it.hush(a);
-            case "go": return it.go(a);
-            case "undo": return it.undo();
-            case "tell": return it.tell(a, b, c, d, e);
-            case "forge": return it.forge(a, b, c);
-            case "clear": return it.clear();
-            case "check": return it.check();
-            default: throw new IllegalArgumentException(name);
         }
     }
 
