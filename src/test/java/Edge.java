@@ -15,7 +15,7 @@ final class Edge {
     private static final Set<String> TAPE = Set.of("tell", "forge", "clear");
     private static final int MOST_KEPT = 60;
     /** As many for every object, so that how long the way was is not seen in the answers. */
-    private static final int PROBES_OF_ONE = 300;
+    private static final int PROBES_OF_ONE = 120;
     /** Calls that are independent of each other, and so may be spread over several objects. */
     private static final List<Run.Call> STATE_PROBES = stateProbes();
     private static final List<Run.Call> TAPE_PROBES = tapeProbes();
@@ -264,16 +264,17 @@ final class Edge {
         return answers;
     }
 
-    /** Every kept act undone, one behind the other, with what told() tells then. */
+    /** Every kept act undone, one behind the other, with what told() tells then: one object for each of its numbers. */
     private static double[] undoAll(List<Run.Call> lead) {
-        Run run = new Run(false).lead(lead);
-        double[] answers = new double[(MOST_KEPT + 1) * 5];
-        for (int i = 0; i < answers.length; i += 5) {
-            answers[i] = run.make("undo");
-            answers[i + 1] = run.make("told 0");
-            answers[i + 2] = run.make("told 1");
-            answers[i + 3] = run.make("told 2");
-            answers[i + 4] = run.make("told 9");
+        int[] whats = {0, 1, 2, 3, 9};
+        double[] answers = new double[whats.length * 2 * (MOST_KEPT + 1)];
+        int i = 0;
+        for (int what : whats) {
+            Run run = new Run(false).lead(lead);
+            for (int undone = 0; undone <= MOST_KEPT; undone++) {
+                answers[i++] = run.make("undo");
+                answers[i++] = run.make("told " + what);
+            }
         }
         return answers;
     }

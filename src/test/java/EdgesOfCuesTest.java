@@ -185,7 +185,8 @@ public final class EdgesOfCuesTest {
             String hung = way + "thing " + it[0] + " 1 1 " + it[1] + "; hang 0 0 0; brick 0 " + it[2] + (it[0].equals("FLYER") ? "; brick 1 " + it[2] : "");
             edge.yes("not in balance: " + String.join(" ", it), hung, "go 1", 0, stop(0, 2, 0) + "barOf 0 8 = 0; cueOf 0 4 = 3");
         }
-        edge.yes("a neighbour that is not in balance", way + "brick 1 1", "go 1", 1);
+        edge.yes("a neighbour above that is not in balance", way + "brick 1 1", "go 1", 1);
+        edge.yes("a neighbour below that is not in balance", "bar 0 8 8; bar 1 8 8; brick 0 1; cue 1 1 0 9", "go 1", 1);
     }
 
     /** The reason (3). */
@@ -196,7 +197,8 @@ public final class EdgesOfCuesTest {
         edge.yes("no line any more", way + "cut 0", "go 1", 0, stop(0, 3, 0));
         edge.yes("it turns about another line", way + "line 0 4 1 100; cut 0", "go 1", 0, stop(0, 3, 0));
         edge.yes("no thing on it, and no line", "bar 0 8 8; hook 0 3 on; cue 0 1 0 9", "go 1", 1);
-        edge.yes("a neighbour that is not held", way + "cut 0; bar 1 8 8; cue 1 1 0 9; hush 0", "go 1", 1);
+        edge.yes("a neighbour below that is not held", way + "cut 0; bar 1 8 8; cue 1 1 0 9; hush 0", "go 1", 1);
+        edge.yes("a neighbour above that is not held", "bar 0 8 8; bar 1 8 8; line 1 3 1 9; thing CLOTH 1 1 8; hang 0 1 3; cut 0; cue 0 1 0 9", "go 1", 1);
     }
 
     /** The reason (4), with bars that go up and down into what hangs on the neighbour. */
@@ -364,6 +366,12 @@ public final class EdgesOfCuesTest {
         edge.asked("put here, taken there", way + "brick 1 5; cue 2 1 0 9", "least = 5");
         edge.asked("all groups", way + "cue 0 1 0 9; cue 2 1 0 9; cue 3 1 0 9", "least = 15");
         edge.asked("all in balance", way + "cue 3 1 0 9; brick 3 3", "least = 0");
+        String last = "bar 10 8 9; bar 11 8 9; line 10 3 1 9; line 11 3 1 9; brick 10 2; brick 11 3; thing FLYER 1 1 8; hang 0 10 3; ";
+        edge.asked("the last two bars, a cue of the first", last + "cue 10 1 0 9", "least = 3");
+        edge.asked("the last two bars, a cue of the second", last + "cue 11 1 0 9", "least = 3");
+        String first = last.replace("10", "0").replace("11", "1");
+        edge.asked("the first two bars, a cue of the first", first + "cue 0 1 0 9", "least = 3");
+        edge.asked("the first two bars, a cue of the second", first + "cue 1 1 0 9", "least = 3");
         edge.asked("the most", Edge.times(12, "bar # 2 1; brick # 2000; cue # 1 0 1"), "least = 24000");
         edge.asked("the first and the last bar", "bar 0 2 1; bar 11 2 1; brick 0 1; brick 11 2; cue 0 1 5 1; cue 11 1 5 1", "least = 3");
     }

@@ -118,6 +118,11 @@ public final class EdgesOfQuestionsTest {
         edge.asked("beyond the outermost one, above", three + "hang 0 3 15", "share 0 = 3603600; share 1 = 0; share 2 = 0");
         edge.asked("the line between was cut", three + "hang 0 3 4; cut 2", "share 0 = 400400; share 1 = 3203200; share 2 = NONE");
         edge.asked("one line bears all", "bar 3 16 9; line 3 7 1 30000; line 3 0 1 9; thing SET 1 1 8; thing SET 1 1 8; hang 0 3 0; hang 1 3 15; cut 1", "share 0 = 720720");
+        String off = "bar 3 16 9; line 3 0 1 30000; line 3 15 1 30000; thing SET 1 1 80; hang 0 3 #; ";
+        edge.asked("one line, at the first place", off.replace("#", "5") + "cut 1", "share 0 = 3603600; barOf 3 7 = 0");
+        edge.asked("one line, at the last place", off.replace("#", "5") + "cut 0", "share 1 = 3603600; barOf 3 7 = 0");
+        edge.asked("one line, at the first place, and the thing too", off.replace("#", "0") + "cut 1", "share 0 = 3603600; barOf 3 7 = 1");
+        edge.asked("one line, at the last place, and the thing too", off.replace("#", "15") + "cut 0", "share 1 = 3603600; barOf 3 7 = 1");
         String most = "bar 3 16 9; line 3 0 1 30000; line 3 1 1 30000; " + Edge.times(8, "thing SET 1 1 30000") + Edge.times(8, "hang # 3 #");
         edge.asked("as much as lines can bear", most, "share 0 = 1351350000; share 1 = 9459450000");
         edge.asked("a FLYER's half, cut, on both bars", "bar 3 9 9; bar 4 9 9; line 3 0 1 9; line 3 8 1 9; line 4 4 1 9; thing FLYER 1 1 63; hang 0 3 4", "share 0 = 540540; share 1 = 540540; share 2 = 1081080");

@@ -96,6 +96,7 @@ public final class EdgesOfShiftTest {
             edge.yes("just ahead of the FLYER", flyer, "shift " + bar + " 1 5 2", 0);
             edge.yes("just behind the FLYER", flyer, "shift " + bar + " 4 6 2", 0);
         }
+        edge.no("a FLYER that is thing 0", Edge.strong(2, 8, 30) + "thing FLYER 1 1 8; hang 0 0 3", "shift 0 3 5 1", Due.TAKEN);
         String[] kinds = {"CLOTH", "BORDER", "LAMP", "SET"};
         for (String kind : kinds) {
             edge.yes("a " + kind + " is carried", Edge.strong(1, 8, 8) + "thing " + kind + " 1 1 8; hang 0 0 3", "shift 0 3 5 1", 1, "at 0 5 = 2");
@@ -135,6 +136,8 @@ public final class EdgesOfShiftTest {
                 "at 0 2 = 0; at 0 3 = 0; at 0 4 = 7; at 0 5 = 0; at 0 6 = 5; at 0 7 = 0");
         edge.yes("nothing for nothing", way + "hang 5 0 2", "shift 0 3 8 4", 0, "at 0 2 = 7; of 5 4 = 2");
         edge.yes("none", way + "hang 5 0 2", "shift 0 2 8 0", 0, "at 0 2 = 7");
+        edge.yes("few behind many", way + Edge.times(5, "hang # 0 #") + "shift 0 0 8 5", "shift 0 8 0 1", 1,
+                "at 0 0 = 2; at 0 1 = 0; at 0 2 = 0; at 0 8 = 0; at 0 9 = 3; at 0 12 = 6");
         edge.yes("what was not carried stays", way + "hang 5 0 2; hang 6 0 4", "shift 0 2 9 2", 1, "at 0 9 = 7; at 0 4 = 8; of 6 4 = 4");
     }
 
