@@ -39,6 +39,7 @@ public final class LanguageTest {
     public static void main(String[] args) throws Exception {
         String text = Files.readString(Path.of("src/main/java/RiggingLoft.java"), StandardCharsets.UTF_8);
         face();
+        printed(Files.readString(Path.of("../shared/DOC.md"), StandardCharsets.UTF_8), text);
         words(withoutComments(text));
         classes();
         Map<String, String> bodies = methods(withoutComments(text));
@@ -94,6 +95,24 @@ public final class LanguageTest {
                 fault("rule 1: " + f);
             }
         }
+    }
+
+    /** Each line of the face stands in the text as the document prints it, and the text has no other public one. */
+    private static void printed(String document, String text) {
+        Set<String> due = publicLines(document.substring(document.indexOf("```java"), document.indexOf("## Terms")));
+        Set<String> got = publicLines(text);
+        if (due.isEmpty() || !got.equals(due)) {
+            fault("rule 1: the document prints " + due + ", the text has " + got);
+        }
+    }
+
+    private static Set<String> publicLines(String text) {
+        Set<String> lines = new TreeSet<>();
+        Matcher m = Pattern.compile("(?m)^ *public (.*?)(;| \\{)$").matcher(text);
+        while (m.find()) {
+            lines.add(m.group(1));
+        }
+        return lines;
     }
 
     private static String parameters(Method m) {
